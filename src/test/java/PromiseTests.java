@@ -51,6 +51,8 @@ public final class PromiseTests {
         kinds();
         count();
         undo();
+        undoOfEach();
+        undoBehindDropped();
         type();
         clearText();
         faultForm();
@@ -292,6 +294,12 @@ public final class PromiseTests {
         x = reading("021;r000;o6;", "r000;r1f1;");
         due("told by an input", x.circuitOf(0, 5), 2);
         due("states without an output", x.circuitOf(1, 5), 1);
+        // two of three states are told apart through the next state by one of the inputs 0 to 3 alone
+        String[] ways = {"101;56e;", "51e;060;", "50e;061;", "001;46e;"};
+        for (int inputs = 0; inputs < 4; inputs++) {
+            x = reading(ways[inputs] + "027;r000;r180;o3;", "");
+            due("told by inputs " + inputs + ": classes", x.circuitOf(0, 5), 3);
+        }
         // states that are not come to are no classes
         x = reading("r021;o2;", "r021;r131;o2;");
         due("one state", x.circuitOf(0, 5), 1);
@@ -315,6 +323,11 @@ public final class PromiseTests {
         due("dependence of all", x.circuitOf(0, 6), 63);
         x.output(0, 12);
         due("dependence of 2 on one gate", x.circuitOf(0, 6), 64 | 18);
+        TickCircuits y = reading("001;001;467;577;o8;", "001;001;576;o8;");
+        due("dependence of 4, not the second wire", y.circuitOf(0, 6), 5);
+        due("dependence of 5, not the second wire", y.circuitOf(1, 6), 6);
+        y.output(0, 9);
+        due("dependence of 5", y.circuitOf(0, 6), 10);
         x.output(0, 6);
         due("dependence on itself", x.circuitOf(0, 6), 1);
         x.output(0, 13);
@@ -486,6 +499,19 @@ public final class PromiseTests {
         }
         due("pair -1", x.pairOf(-1, 0), INVALID);
         due("pair MIN_VALUE", x.pairOf(Integer.MIN_VALUE, 0), INVALID);
+        // a pair that is come to by two ticks has the least of their rows
+        x = reading("r000;r120;", "r010;r120;");
+        due("pairs", x.pairs(), 16);
+        due("the last one's first inputs", x.pairOf(15, 10), 3);
+        due("the last one's second inputs", x.pairOf(15, 11), 3);
+        due("no third ones", x.pairOf(15, 12), NOT_FOUND);
+        for (int pair = 5; pair < 16; pair++) {
+            int row = x.pairOf(pair, 10) + 4 * x.pairOf(pair, 11);
+            due("the row leads to its state of 0", x.run(0, row, 2, 0), x.pairOf(pair, 0));
+            due("the row leads to its state of 1", x.run(1, row, 2, 0), x.pairOf(pair, 1));
+            due("in order", 4 * x.pairOf(pair - 1, 10) + x.pairOf(pair - 1, 11)
+                < 4 * x.pairOf(pair, 10) + x.pairOf(pair, 11) || pair == 5 ? 1 : 0, 1);
+        }
         // differing inputs one by one
         x = reading("o0;", "o1;");
         due("differing by both", x.pairOf(0, 3), 6);
@@ -639,6 +665,14 @@ public final class PromiseTests {
         due("inverters", x.kinds(0), 4 | 8 | 32);
         x = reading("20e;o6;", "o0;");
         due("with 0", x.kinds(0), 2 | 4 | 16);
+        x = reading("402;101;o7;", "40e;101;o7;");
+        due("its own wires stay, in the circuit 0", x.kinds(1), 2);
+        x = reading("001;o6;", "222;o6;r000;");
+        due("with its wires, not those of the circuit 1", x.kinds(0), 0);
+        x = reading("023;o6;", "123;r000;o6;");
+        due("registers that stay 0", x.kinds(0), 0);
+        x = reading("023;o6;", "0e3;o6;");
+        due("registers that stay 0", x.kinds(0), 1 | 2 | 4 | 16);
         // seen through a register only, two ticks behind
         x = reading("001;46e;r070;r120;o3;", "301;r060;r120;o3;");
         due("through registers", x.kinds(0), 8);
@@ -709,6 +743,55 @@ public final class PromiseTests {
         due("a gate", x.circuitOf(0, 0), 1);
         due("undo gate", x.undo(), 0);
         due("no gate", x.circuitOf(0, 0), 0);
+    }
+
+    /** After each kind of change undo brings back all that was in both circuits. */
+    private static void undoOfEach() {
+        for (int circuit = 0; circuit < 2; circuit++) {
+            for (int change = 0; change < 6; change++) {
+                TickCircuits x = reading("001;166;r031;r2f0;o7;", "2ef;516;r170;r3d1;o1;");
+                x.output(0, 5);
+                typeAll(x, "r0f1;o2;");
+                int[] before = seen(x);
+                switch (change) {
+                    case 0: x.gate(circuit, 1, 3, 4, 5); break;
+                    case 1: x.dropGate(circuit); break;
+                    case 2: x.register(circuit, 2, 1, 1); break;
+                    case 3: x.output(circuit, 4); break;
+                    case 4: x.copy(circuit); break;
+                    default: x.read(circuit); break;
+                }
+                due("a change", Arrays.equals(before, seen(x)) ? 0 : 1, 1);
+                due("its history", x.count(2), 4);
+                due("undo of change " + change, x.undo(), 3);
+                due("all as before change " + change, Arrays.equals(before, seen(x)) ? 1 : 0, 1);
+            }
+        }
+    }
+
+    /** The history drops its oldest states whole: gates, wires and registers of both circuits. */
+    private static void undoBehindDropped() {
+        for (int circuit = 0; circuit < 2; circuit++) {
+            TickCircuits x = new TickCircuits();
+            for (int g = 0; g < 8; g++) {
+                x.gate(circuit, g, g % 6, g, 15);
+            }
+            for (int gates = 7; gates >= 4; gates--) {
+                due("undo", x.undo(), gates - 4);
+                due("gates", x.circuitOf(circuit, 0), gates);
+                due("the last one's kind", x.circuitOf(circuit, 9 + gates), (gates - 1) % 6);
+                due("the dropped one's kind", x.circuitOf(circuit, 10 + gates), NOT_FOUND);
+            }
+            for (int i = 0; i < 8; i++) {
+                x.register(circuit, i % 4, i, i / 4);
+            }
+            for (int i = 7; i >= 4; i--) {
+                x.undo();
+                due("first state", x.circuitOf(circuit, 2), (1 << (i - 4)) - 1);
+            }
+            x.register(circuit, 3, 3, 0);
+            due("next wire and first bit", x.register(circuit, 3, 3, 0), 6);
+        }
     }
 
     // ---- promises 20 to 23
