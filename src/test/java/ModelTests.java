@@ -14,18 +14,9 @@ import java.util.regex.Pattern;
  * Long runs of calls, each answer compared with that of a slow model that is written from DOC.md in other ways:
  * rows as texts, sets of the library, regular expressions.
  */
-public final class ModelTests {
-    private static final int INVALID = -1000001;
-    private static final int NOT_POSSIBLE = -1000002;
-    private static final int LIMIT = -1000003;
-    private static final int NOT_FOUND = -1000004;
-
+public final class ModelTests extends Checks {
     private static final int OBJECTS = 1000;
     private static final int CALLS = 512;
-    private static final String[] NAMES = {"gate", "dropGate", "register", "output", "copy", "circuitOf", "bit",
-        "behind", "run", "share", "pairOf", "pairs", "apart", "late", "same", "kinds", "count", "undo", "type",
-        "clearText", "fault", "read"};
-    private static final int[] ARGUMENTS = {5, 1, 4, 2, 1, 2, 4, 3, 4, 2, 2, 0, 1, 0, 1, 1, 1, 0, 1, 0, 1, 1};
 
     public static void main(String[] args) {
         int wrong = 0;
@@ -85,41 +76,6 @@ public final class ModelTests {
             }
         }
         return unmet;
-    }
-
-    private static String told(int[] call) {
-        StringBuilder said = new StringBuilder(NAMES[call[0]]).append('(');
-        for (int i = 1; i < call.length; i++) {
-            said.append(i == 1 ? "" : ", ").append(call[i]);
-        }
-        return said.append(')').toString();
-    }
-
-    private static int answer(TickCircuits x, int[] c) {
-        switch (c[0]) {
-            case 0: return x.gate(c[1], c[2], c[3], c[4], c[5]);
-            case 1: return x.dropGate(c[1]);
-            case 2: return x.register(c[1], c[2], c[3], c[4]);
-            case 3: return x.output(c[1], c[2]);
-            case 4: return x.copy(c[1]);
-            case 5: return x.circuitOf(c[1], c[2]);
-            case 6: return x.bit(c[1], c[2], c[3], c[4]);
-            case 7: return x.behind(c[1], c[2], c[3]);
-            case 8: return x.run(c[1], c[2], c[3], c[4]);
-            case 9: return x.share(c[1], c[2]);
-            case 10: return x.pairOf(c[1], c[2]);
-            case 11: return x.pairs();
-            case 12: return x.apart(c[1]);
-            case 13: return x.late();
-            case 14: return x.same(c[1]);
-            case 15: return x.kinds(c[1]);
-            case 16: return x.count(c[1]);
-            case 17: return x.undo();
-            case 18: return x.type(c[1]);
-            case 19: return x.clearText();
-            case 20: return x.fault(c[1]);
-            default: return x.read(c[1]);
-        }
     }
 
     /** Chooses calls: most with arguments in range, some just beyond it, some far beyond. */

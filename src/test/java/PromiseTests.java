@@ -1,29 +1,8 @@
 import java.util.Arrays;
 
 /** For each promise of DOC.md: ordinary inputs, the edges that it names, and wrong inputs. */
-public final class PromiseTests {
-    private static final int INVALID = -1000001;
-    private static final int NOT_POSSIBLE = -1000002;
-    private static final int LIMIT = -1000003;
-    private static final int NOT_FOUND = -1000004;
-    /** A counter of four bits, that stands still unless the input 0 is 1. */
-    private static final String COUNTER = "220;002;237;073;249;094;25b;r060;r180;r2a0;r3c0;";
-    /** A counter of four bits; the wire c is 1 in its last state alone. */
-    private static final String FREE_COUNTER = "52e;223;023;248;084;25a;0a5;r060;r170;r290;r3b0;";
-    /** Goes through 15 states and comes back to its first one. */
-    private static final String FIFTEEN = "245;r061;r120;r230;r340;";
+public final class PromiseTests extends Checks {
     private static final int[] WRONG_NUMBERS = {Integer.MIN_VALUE, -1000001, -1, 1000001, Integer.MAX_VALUE};
-
-    private static int checks = 0;
-    private static int wrong = 0;
-
-    private static void due(String call, int got, int want) {
-        checks++;
-        if (got != want) {
-            wrong++;
-            System.out.println(call + " answered " + got + ", due is " + want);
-        }
-    }
 
     public static void main(String[] args) {
         constants();
@@ -60,30 +39,10 @@ public final class PromiseTests {
         read();
         errorsChangeNothing();
         questionsChangeNothing();
-        System.out.println(checks + " checks, " + wrong + " wrong");
-        if (wrong != 0) {
-            System.exit(1);
-        }
+        finish();
     }
 
     // ---- what the tests share
-
-    private static void typeAll(TickCircuits x, String text) {
-        for (int i = 0; i < text.length(); i++) {
-            x.type(text.charAt(i));
-        }
-    }
-
-    private static TickCircuits reading(String zero, String one) {
-        TickCircuits x = new TickCircuits();
-        typeAll(x, zero);
-        due("read(0) of " + zero, x.read(0) < 0 ? 1 : 0, 0);
-        x.clearText();
-        typeAll(x, one);
-        due("read(1) of " + one, x.read(1) < 0 ? 1 : 0, 0);
-        x.clearText();
-        return x;
-    }
 
     /** All that can be seen of an object without changing it. */
     private static int[] seen(TickCircuits x) {
