@@ -40,6 +40,7 @@ public final class BothEdges extends Checks {
         undoReturns();
         undoOldestDropped();
         undoEachChange();
+        undoWholeStates();
         undoNoChange();
         undoNotTheText();
         finish(12, 19);
@@ -245,7 +246,8 @@ public final class BothEdges extends Checks {
     private static void apartNever() {
         sentence(14, "NOT_FOUND if there is no such row");
         TickCircuits[] objects = {new TickCircuits(), reading(CHAIN + "o5;", CHAIN + "o5;"),
-            reading("001;o6;", "301;566;o7;"), reading(FREE_COUNTER + "of;", FIFTEEN + "of;")};
+            reading("001;o6;", "301;566;o7;"), reading(FREE_COUNTER + "of;", FIFTEEN + "of;"),
+            reading("r021;o2;", "of;"), reading("of;", "r3f1;o5;")};
         for (TickCircuits x : objects) {
             for (int index : new int[] {-1, 0, 1, 255, Integer.MAX_VALUE}) {
                 due("apart(" + index + ")", x.apart(index), NOT_FOUND);
@@ -404,6 +406,13 @@ public final class BothEdges extends Checks {
         due("late by four registers", x.late(), 4);
         x.gate(1, 0, 2, 0, 1);
         due("of another kind", x.late(), NOT_FOUND);
+        // states that were come to ahead of a change are not asked any more
+        x = reading(CHAIN + "o5;", CHAIN + "o5;");
+        due("chains", x.late(), 0);
+        x.register(0, 0, 2, 0);
+        x.output(0, 2);
+        x.output(1, 14);
+        due("a register that stays 0, behind a change", x.late(), 0);
     }
 
     // ---- promise 16: same
@@ -455,6 +464,14 @@ public final class BothEdges extends Checks {
         }
         x = reading("r001;", "r001;");
         due("a pair that is not come to", x.same(0), 1);
+        // pairs that were come to ahead of a change do not count any more
+        x = reading(CHAIN, "r010;r120;r230;r340;");
+        due("in none of all pairs", x.same(0), 0);
+        x.register(0, 0, 14, 0);
+        x.register(1, 0, 14, 0);
+        for (int r = 0; r < 4; r++) {
+            due("in all of one pair, behind a change", x.same(r), 15);
+        }
     }
 
     // ---- promise 17: kinds
@@ -561,6 +578,7 @@ public final class BothEdges extends Checks {
         due("in the tick 15", reading(FREE_COUNTER + "oc;", "").count(1), 0);
         due("other circuits", reading("001;o6;", "301;566;o7;").count(1), 1);
         due("differences that are not come to", reading("r020;o2;", "").count(1), 1);
+        due("differences in the state 0, that is not come to", reading("r021;o2;", "of;").count(1), 1);
     }
 
     private static void countHistory() {
@@ -681,6 +699,35 @@ public final class BothEdges extends Checks {
                 due("register " + r + " behind " + said, x.register(circuit, r, 14, 0), y.register(circuit, r, 14, 0));
             }
         }
+    }
+
+    private static void undoWholeStates() {
+        sentence(19, "each change records everything before it but the text");
+        for (int undone = 1; undone <= 4; undone++) {
+            TickCircuits x = readInTurn(6);
+            for (int i = 1; i <= undone; i++) {
+                due("undo()", x.undo(), 4 - i);
+            }
+            dueSame(undone + " times undo()", x, readInTurn(6 - undone));
+        }
+    }
+
+    /** The circuits by turns from texts of 8 gates, each of which differs from the others in all parts. */
+    private static TickCircuits readInTurn(int texts) {
+        TickCircuits x = new TickCircuits();
+        for (int i = 0; i < texts; i++) {
+            StringBuilder text = new StringBuilder("o").append(i).append(';');
+            for (int gate = 0; gate < 8; gate++) {
+                text.append((gate + i) % 6).append((2 * gate + i) % 6).append((gate + 5 * i) % 6).append(';');
+            }
+            for (int r = 0; r < 4; r++) {
+                text.append('r').append(r).append((r + i) % 6).append(i / 2 % 2).append(';');
+            }
+            typeAll(x, text.toString());
+            due("read", x.read(i % 2), 8);
+            x.clearText();
+        }
+        return x;
     }
 
     private static void undoNoChange() {

@@ -523,6 +523,10 @@ public final class CircuitEdges extends Checks {
         x = reading("r3e1;", "r0f0;r120;r230;r340;");
         due("the first one is one of them", x.circuitOf(0, 3), 1 | 1 << 8);
         due("one by one to the last one", x.circuitOf(1, 3), 1 | 1 << 1 | 1 << 3 | 1 << 7 | 1 << 15);
+        String[] alone = {"101;56e;r070;", "51e;006;r070;", "50e;016;r070;", "001;r060;"};
+        for (int inputs = 0; inputs < 4; inputs++) {
+            due("by the inputs " + inputs + " alone", reading(alone[inputs], "").circuitOf(0, 3), 3);
+        }
     }
 
     private static void steadyRegisters() {
@@ -573,6 +577,14 @@ public final class CircuitEdges extends Checks {
             x.output(0, 8);
             due("not told apart", x.circuitOf(0, 5), 1);
         }
+        // one input alone leads two of three states to states that are told apart
+        String[] alone = {"101;56e;", "51e;060;", "50e;061;", "001;46e;"};
+        for (int inputs = 0; inputs < 4; inputs++) {
+            x = reading(alone[inputs] + "027;r000;r180;o3;", "");
+            due("told apart behind the inputs " + inputs, x.circuitOf(0, 5), 3);
+        }
+        // the states 0 and 2 lead to the states 1 and 0, by which alone they are told apart
+        due("told apart by way of the state 0", reading("53e;020;r060;r170;o2;", "").circuitOf(0, 5), 4);
         // the first register forgets at once, the second one keeps what the first one had
         x = reading("r000;r120;o3;", "r000;r130;o2;");
         due("told apart two ticks on", x.circuitOf(0, 5), 4);
