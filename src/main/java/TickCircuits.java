@@ -366,7 +366,8 @@ public final class TickCircuits {
             case 4:
                 return askedTable.steadyRegisters(states);
             default:
-                return alike.classesAmong(states, askedTable);
+                alike.findUnlike(askedTable);
+                return alike.classesAmong(states);
         }
     }
 
@@ -726,21 +727,9 @@ public final class TickCircuits {
             unlikeSets = new Row(STATES);
         }
 
-        int classesAmong(int states, StepTable table) {
-            findUnlike(table);
-            int classes = 0;
-            for (int state = 0; state < STATES; state++) {
-                int lesserAlike = states & ~unlikeSets.get(state) & ((1 << state) - 1);
-                if (bitOf(states, state) == 1 && lesserAlike == 0) {
-                    classes++;
-                }
-            }
-            return classes;
-        }
-
         // Each round tells apart by rows of one more input; a round that tells no more apart is the
         // last one, and there are fewer of the others than states.
-        private void findUnlike(StepTable table) {
+        void findUnlike(StepTable table) {
             unlikeSets.clear();
             boolean toldMore = true;
             for (int round = 0; round < STATES && toldMore; round++) {
@@ -751,6 +740,18 @@ public final class TickCircuits {
                     unlikeSets.set(state, found);
                 }
             }
+        }
+
+        /** How many classes these states are in, by what was found for their circuit. */
+        int classesAmong(int states) {
+            int classes = 0;
+            for (int state = 0; state < STATES; state++) {
+                int lesserAlike = states & ~unlikeSets.get(state) & ((1 << state) - 1);
+                if (bitOf(states, state) == 1 && lesserAlike == 0) {
+                    classes++;
+                }
+            }
+            return classes;
         }
 
         private int unlikeTo(int state, StepTable table) {

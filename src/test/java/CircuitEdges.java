@@ -419,7 +419,7 @@ public final class CircuitEdges extends Checks {
     }
 
     private static void copyReturns() {
-        sentence(6, "circuit: the one that is copied. Returns how many gates it has");
+        sentence(6, "circuit: [..] the one that is copied. Returns how many gates it has");
         for (int circuit = 0; circuit < 2; circuit++) {
             TickCircuits x = withGates(circuit, 8);
             due("full over empty", x.copy(circuit), 8);

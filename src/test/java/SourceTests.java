@@ -13,7 +13,7 @@ import java.util.TreeSet;
 import java.util.regex.Matcher;
 import java.util.regex.Pattern;
 
-/** The rules of LANGUAGE.md that can be looked up in the class and in its source, whose path is given. */
+/** The rules of LANGUAGE.md that can be looked up in the class and in its source, below the folder that is given. */
 public final class SourceTests {
     private static final String[] FACE = {"apart/1", "behind/3", "bit/4", "circuitOf/2", "clearText/0", "copy/1",
         "count/1", "dropGate/1", "fault/1", "gate/5", "kinds/1", "late/0", "output/2", "pairOf/2", "pairs/0",
@@ -40,7 +40,7 @@ public final class SourceTests {
         for (Class<?> each : classes) {
             insides(each);
         }
-        List<String> lines = Files.readAllLines(Path.of(args[0]));
+        List<String> lines = Files.readAllLines(Path.of(args[0], "src/main/java/TickCircuits.java"));
         words(lines);
         arrays(lines);
         lengths(lines);
